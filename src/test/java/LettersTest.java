@@ -204,9 +204,15 @@ public final class LettersTest {
         due.is("lost(0, 40), both 0", x.lost(0, 40), 0);
         x.ask(0, 0);
         due.is("lost(0, 1), LOSS 0", x.lost(0, 1), 0);
+        // ASHAMED, WILL 7 at SILENT 0: as PUPIL; PROUD with 1 writes at SILENT 0
+        due.is("lost of ASHAMED", ofKind(2, 0).lost(0, 1), 166);
+        due.is("lost of PROUD with 1", ofKind(4, 1).lost(0, 1), 166);
+        due.is("lost of PROUD with 0", ofKind(4, 0).lost(0, 1), 76);
         due.is("lost(0, 41)", x.lost(0, 41), -2);
         due.is("lost(0, -1)", x.lost(0, -1), -2);
         due.is("lost(2, 0)", x.lost(2, 0), -2);
+        Due.list(x, "likes 0 1; likes 1 1; likes 0 2; likes 1 2; likes 0 3; likes 1 3; loss 12");
+        due.is("lost(0, 1), WILL 12 and LOSS 12", x.lost(0, 1), 1000);
         x.part(0);
         due.is("lost(0, 0), no friend", x.lost(0, 0), -5);
     }
@@ -237,6 +243,9 @@ public final class LettersTest {
         due.is("wish(0)", x.wish(0), 5);
         due.is("wish(1), 0 likes no more", x.wish(1), -1);
         due.is("nothing is changed", x.pupilOf(0, 3), 4);
+        x.likes(1, 0, true);
+        due.is("wish(0), the first", x.wish(0), 0);
+        x.likes(1, 0, false);
         x.likes(0, 5, true);
         due.is("wish(0) now", x.wish(0), 7);
         x.ask(1, 9);

@@ -68,6 +68,11 @@ public final class ManyTest {
         Due.live(x, 300, 300, 300);
         due.is("tongue(), ASHAMED and silent for 3", x.tongue(), -1);
         due.is("nothing is refused", Due.refusals(x), 0);
+        x = Due.with("pupil 0 0 0; pupil 0 0 1; pair 0 1");
+        for (int i = 0; i < 9; i++) {
+            Due.live(x, 300);
+        }
+        due.is("tongue(), 4 less 3", x.tongue(), 0);
     }
 
     private static void first() {

@@ -154,6 +154,12 @@ public final class PairingTest {
         due.is("same(-1)", x.same(-1), -2);
         x = Due.with("pupil 0 0 0; pupil 0 0 1");
         due.is("no twins of two schools", x.same(2), -1);
+        due.is("same(0), none", x.same(0), 0);
+        x.likes(1, 1, true);
+        due.is("same(0), the second", x.same(0), 1);
+        due.is("same(1)", x.same(1), 1);
+        x.likes(0, 0, true);
+        due.is("same(0), the first", x.same(0), 0);
     }
 
     private static void near() {

@@ -42,7 +42,9 @@ public final class ShelvesTest {
         }
         due.is("status(12)", x.status(12), bad.length);
         due.is("holds(0), row refused", x.holds(0), 0);
+        x.set(7, 0, 1);
         due.is("row(7, 3, 40)", x.row(7, 3, 40), 1);
+        due.is("element(7, 0), a new row", x.element(7, 0), 0);
         due.is("element(7, 39), a new row", x.element(7, 39), 0);
         due.is("holds(7)", x.holds(7), 3);
     }

@@ -127,6 +127,11 @@ public final class TapeTest {
         fault("7", 0);
         fault("pupils 0 0 0", 0);
         fault("pupi 0 0 0", 0);
+        fault("qoss 1", 0);
+        fault("lose 1", 0);
+        fault("lossz 1", 0);
+        fault("lossa 1", 0);
+        fault("loss 1z", 6);
         fault("pupil 6 0 0", 6);
         fault("pupil 0 10 0", 8);
         fault("pupil 0 0 2", 10);

@@ -58,7 +58,7 @@ public final class TruthTest {
         int[] owner = {1, 2};
         int[][] two = {{1, 0}, {2, 3}};
         int came = 0;
-        for (int week = 1; week <= 12; week++) {
+        for (int week = 1; week <= 60; week++) {
             for (int p = 0; p < 2; p++) {
                 int one = owner[p];
                 int will = x.will(one, 0);
