@@ -158,6 +158,12 @@ public final class LettersEdgesTest {
             Due.live(x, 200);
             due.is("will of LONG, whatever his LENGTH", x.will(0, 0), 12);
         }
+        // what is above 12 counts until the quarter of his 33 lines is taken away: 14, 16, 18, 20 less 8
+        for (int common = 5; common < 9; common++) {
+            DearPenFriend x = one(WINDY, 9, common);
+            Due.live(x, 200);
+            due.is("will of WINDY, LENGTH 33, COMMON " + common, x.will(0, 0), 2 * common - 4);
+        }
         // on FRIDAY 10 lines: a quarter is 2
         DearPenFriend x = one(WINDY, 9, 0);
         x.ask(2, 1);

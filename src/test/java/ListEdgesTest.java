@@ -10,6 +10,7 @@ public final class ListEdgesTest {
         anyByteAhead();
         anyByteWithin();
         tokensAsLongAsCanBe();
+        wordsThatMayBe();
         oneStatementOrMore();
         numbersThatMayBe();
         twoDigits();
@@ -102,6 +103,23 @@ public final class ListEdgesTest {
         fault("toil 5 loss 6", 7);
         fault("toil 5 5", 7);
         taken("   toil   5   ;   loss   6   ", 2);
+    }
+
+    /** A WORD that is none of the seven can't stand there: another letter, one less, one more. */
+    private static void wordsThatMayBe() {
+        String[] words = {"pupil", "likes", "pair", "part", "loss", "toil", "friday"};
+        String[] behind = {" 0 0 0", " 0 0", " 0 1", " 0", " 0", " 0", " 0"};
+        for (int w = 0; w < words.length; w++) {
+            String word = words[w];
+            for (int i = 0; i < word.length(); i++) {
+                fault(word.substring(0, i) + "z" + word.substring(i + 1) + behind[w], 0);
+                fault(word.substring(0, i) + word.substring(i + 1) + behind[w], 0);
+                fault(word.substring(0, i) + (char) (word.charAt(i) - 32) + word.substring(i + 1) + behind[w], 0);
+                fault("toil 0;" + word.substring(0, i) + "a" + word.charAt(i) + word.substring(i + 1) + behind[w], 7);
+            }
+            fault(word + word.charAt(0) + behind[w], 0);
+            fault("toil 0;" + word + "s" + behind[w], 7);
+        }
     }
 
     /** "STATEMENTS, one or more, with ; between". */

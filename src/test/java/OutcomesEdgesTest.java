@@ -227,6 +227,16 @@ public final class OutcomesEdgesTest {
         x.likes(1, 7, true);
         due.is("same(0), one more", x.same(0), 7);
         due.is("same(1)", x.same(1), 2);
+        for (int bit = 7; bit >= 0; bit--) {
+            DearPenFriend y = of("01");
+            y.likes(1, bit, true);
+            due.is("same(0), only " + bit, y.same(0), bit);
+            due.is("same(1), only " + bit, y.same(1), 1);
+            likes(y, 0, 255 - ((1 << bit) - 1));
+            likes(y, 1, 255 - ((1 << bit) - 1));
+            due.is("same(0), " + bit + " and above", y.same(0), bit);
+            due.is("same(1), " + bit + " and above", y.same(1), 2);
+        }
         for (int i = 0; i < 12; i++) {
             x.likes(i, 0, true);
         }
