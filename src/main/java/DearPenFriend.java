@@ -1240,8 +1240,8 @@ public final class DearPenFriend {
 
     /** Who gets whom, so that most is common, then most are paired, then the first by rows. */
     private static final class Matching {
-        // one row leaves eleven columns at most, more rows fewer: two tables of 2048 are the most
-        private static final int MOST_STANDS = 4096;
+        // one row leaves eleven columns at most, two leave ten: 2048 stands either way, more rows fewer
+        private static final int MOST_STANDS = 2048;
         private static final int PER_COMMON = 8;
 
         final Pupil[] rows;

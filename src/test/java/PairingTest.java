@@ -1,3 +1,5 @@
+import java.util.Random;
+
 /** Promises 24 to 27, 35, 39 and 50: who should be paired with whom. */
 public final class PairingTest {
     private static final Due due = new Due("PairingTest");
@@ -7,6 +9,8 @@ public final class PairingTest {
         pairedMostTogether();
         pairedFirstByRows();
         pairedSixAtMost();
+        pairedAtAllSizes();
+        pairedFirstTakesLast();
         left();
         best();
         same();
@@ -89,6 +93,58 @@ public final class PairingTest {
             }
         }
         pairedAre(x, 48, 1, 3, 5, 7, 9, 11);
+    }
+
+    /** As many of each SCHOOL as there can be, against every way to pair them. */
+    private static void pairedAtAllSizes() {
+        Random random = new Random(24);
+        for (int ones = 0; ones <= 12; ones++) {
+            for (int others = 0; others <= 12 - ones; others++) {
+                for (int time = 0; time < 6; time++) {
+                    pairedLikeModel(random, ones, others);
+                }
+            }
+        }
+    }
+
+    /** The first takes the last of ten; what is left for the second must still be known then. */
+    private static void pairedFirstTakesLast() {
+        DearPenFriend x = new DearPenFriend();
+        for (int i = 0; i < 12; i++) {
+            x.pupil(0, 0, i < 2 ? 0 : 1);
+        }
+        for (int bit = 0; bit < 3; bit++) {
+            x.likes(0, bit, true);
+            x.likes(11, bit, true);
+        }
+        pairedAre(x, 3, 11, 2);
+        x.likes(1, 7, true);
+        x.likes(5, 7, true);
+        pairedAre(x, 4, 11, 5);
+    }
+
+    private static void pairedLikeModel(Random random, int ones, int others) {
+        DearPenFriend x = new DearPenFriend();
+        Model model = new Model();
+        for (int i = 0; i < ones + others; i++) {
+            int school = i < ones ? 0 : 1;
+            x.pupil(0, 0, school);
+            model.pupil(0, 0, school);
+        }
+        // few interests make many ways that are as good, many make few
+        int interests = 1 + random.nextInt(8);
+        for (int i = 0; i < ones + others; i++) {
+            for (int bit = 0; bit < interests; bit++) {
+                boolean is = random.nextBoolean();
+                x.likes(i, bit, is);
+                model.likes(i, bit, is);
+            }
+        }
+        String sizes = " of " + ones + " and " + others;
+        for (int i = -1; i <= 6; i++) {
+            due.is("paired(" + i + ")" + sizes, x.paired(i), model.paired(i));
+        }
+        due.is("left()" + sizes, x.left(), model.left());
     }
 
     private static void left() {
